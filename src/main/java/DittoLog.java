@@ -71,7 +71,7 @@ public final class DittoLog {
         if (log.rows >= MAX_ROWS) {
             return FULL;
         }
-        history.record(log);
+        history.remember(log);
         log.appendRow(course, speed, wind, keeper);
         return log.rows - 1;
     }
@@ -85,7 +85,7 @@ public final class DittoLog {
         if (log.rows + added > MAX_ROWS) {
             return FULL;
         }
-        history.record(log);
+        history.remember(log);
         for (int i = 0; i < added; i++) {
             log.appendRow(text.read(i, COURSE), text.read(i, SPEED), text.read(i, WIND), text.read(i, KEEPER));
         }
@@ -96,7 +96,7 @@ public final class DittoLog {
         if (log.rows <= 0) {
             return NOT_POSSIBLE;
         }
-        history.record(log);
+        history.remember(log);
         log.dropRow();
         return log.rows;
     }
@@ -115,7 +115,7 @@ public final class DittoLog {
             return NONE;
         }
         int changed = log.changedBy(row, column, entry);
-        history.record(log);
+        history.remember(log);
         log.pushEntry(row, column, entry);
         return changed;
     }
@@ -129,7 +129,7 @@ public final class DittoLog {
             return NOT_POSSIBLE;
         }
         int changed = log.changedBy(row, column, log.entryOf(row, column, entries - 2));
-        history.record(log);
+        history.remember(log);
         log.popEntry(row, column);
         return changed;
     }
@@ -145,7 +145,7 @@ public final class DittoLog {
         if (previous == sum) {
             return NONE;
         }
-        history.record(log);
+        history.remember(log);
         log.writeSum(watch, sum);
         return previous + SUM_OFFSET;
     }
@@ -158,7 +158,7 @@ public final class DittoLog {
         if (previous == value) {
             return NONE;
         }
-        history.record(log);
+        history.remember(log);
         log.changeSetting(which, value);
         return previous;
     }
@@ -191,7 +191,7 @@ public final class DittoLog {
         if (!hasSnapshot) {
             return NONE;
         }
-        history.record(log);
+        history.remember(log);
         log.copyFrom(snapshot);
         return log.rows;
     }
@@ -739,7 +739,7 @@ public final class DittoLog {
             size = 0;
         }
 
-        private void record(Log log) {
+        private void remember(Log log) {
             if (size < MAX_HISTORY) {
                 size++;
             } else {
