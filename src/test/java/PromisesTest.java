@@ -600,6 +600,7 @@ public final class PromisesTest {
     // ---- promise 17
 
     private static void column() {
+        same("the longest of one row", withRows("',0,0,0").column(0, 4), 1);
         DittoLog log = withRows("',199,1,-", "5,',1,-", "2,',0,-", "',-,0,-", "5,',','");
         int[][] due = {
             {2, 0, 0, 1, 2, 2, 0},
@@ -782,6 +783,26 @@ public final class PromisesTest {
             east += 199 / 10.0;
         }
         same("the farthest", log.squareBits(0, 47), Float.floatToIntBits((float) (east * east)));
+        squareBitsOfTwo();
+    }
+
+    /** Short ways and courses that nearly cancel out, so that small floats come up, and some just above 2, 4, 8 .. */
+    private static void squareBitsOfTwo() {
+        for (int first = 0; first < 20; first++) {
+            for (int second = 0; second < 200; second += second < 20 ? 1 : 7) {
+                DittoLog log = new DittoLog();
+                log.addRow(1, first, 0, 0);
+                for (int course = 0; course < 8; course++) {
+                    log.addRow(course, second, 0, 0);
+                    double north = log.north(0, course + 1);
+                    double east = log.east(0, course + 1);
+                    float square = (float) (north * north + east * east);
+                    same("the square", log.squareBits(0, course + 1), Float.floatToIntBits(square));
+                }
+            }
+        }
+        same("45.3 miles", withRows("0,199,0,0", "0,199,0,0", "0,55,0,0").squareBits(0, 2),
+            Float.floatToIntBits((float) ((19.9 + 19.9 + 5.5) * (19.9 + 19.9 + 5.5))));
     }
 
     // ---- promise 23
