@@ -50,23 +50,6 @@ public final class PromisesTest {
         CHECK.sameDouble(call, got, want);
     }
 
-    private static void typeText(DittoLog log, String text) {
-        log.clearText();
-        for (int i = 0; i < text.length(); i++) {
-            log.type(text.charAt(i));
-        }
-    }
-
-    private static DittoLog withRows(String... rows) {
-        DittoLog log = new DittoLog();
-        for (String row : rows) {
-            typeText(log, row);
-            same("addRows() of " + row, log.addRows(), 1);
-        }
-        log.clearText();
-        return log;
-    }
-
     private static DittoLog filled(int rows) {
         DittoLog log = new DittoLog();
         for (int row = 0; row < rows; row++) {
@@ -130,7 +113,7 @@ public final class PromisesTest {
 
     private static void addRows() {
         DittoLog log = new DittoLog();
-        typeText(log, "0,0,0,0;7,199,12,9;-,-,-,-;',',','");
+        Logs.typeText(log, "0,0,0,0;7,199,12,9;-,-,-,-;',',','");
         same("addRows() of four", log.addRows(), 4);
         same("it is one act", log.count(10), 1);
         same("the text stays", log.count(11), 34);
@@ -146,7 +129,7 @@ public final class PromisesTest {
         same("four rows", log.count(0), 4);
 
         log = filled(41);
-        typeText(log, "-,-,-,-;-,-,-,-;-,-,-,-;-,-,-,-;-,-,-,-;-,-,-,-;-,-,-,-");
+        Logs.typeText(log, "-,-,-,-;-,-,-,-;-,-,-,-;-,-,-,-;-,-,-,-;-,-,-,-;-,-,-,-");
         same("seven rows up to 48", log.addRows(), 7);
         same("seven rows more", log.addRows(), FULL);
         same("none of them is added", log.count(0), 48);
@@ -154,9 +137,9 @@ public final class PromisesTest {
         same("removed one", log.count(0), 47);
         same("seven rows, room for one", log.addRows(), FULL);
         same("none is added", log.count(0), 47);
-        typeText(log, "-,-,-,-;");
+        Logs.typeText(log, "-,-,-,-;");
         same("a fault goes ahead of FULL", log.addRows(), -108);
-        typeText(log, "1,2,3,4");
+        Logs.typeText(log, "1,2,3,4");
         same("one row, room for one", log.addRows(), 1);
         same("one row, room for none", log.addRows(), FULL);
         same("after removal only the new entry counts", log.cell(47, 1, 2), 1);
@@ -177,14 +160,14 @@ public final class PromisesTest {
         };
         for (int i = 0; i < texts.length; i++) {
             DittoLog log = new DittoLog();
-            typeText(log, texts[i]);
+            Logs.typeText(log, texts[i]);
             int want = faults[i] < 0 ? -faults[i] : -100 - faults[i];
             same("addRows() of \"" + texts[i] + "\"", log.addRows(), want);
             same("rows by \"" + texts[i] + "\"", log.count(0), Math.max(0, want));
             same("states by \"" + texts[i] + "\"", log.count(10), want > 0 ? 1 : 0);
         }
         DittoLog log = new DittoLog();
-        typeText(log, "0,100,10,0;0,100,10,0;0,100,10,0;0,100,10,0;0,100,10,0;0,100");
+        Logs.typeText(log, "0,100,10,0;0,100,10,0;0,100,10,0;0,100,10,0;0,100,10,0;0,100");
         same("a full text is at 60", log.count(11), 60);
         same("the fault of a full text", log.addRows(), -160);
     }
@@ -195,7 +178,7 @@ public final class PromisesTest {
         DittoLog log = new DittoLog();
         same("nothing to remove", log.removeRow(), NOT_POSSIBLE);
         same("no state by it", log.count(10), 0);
-        log = withRows("1,2,3,4", "5,6,7,8");
+        log = Logs.withRows("1,2,3,4", "5,6,7,8");
         log.correct(1, 1, 9);
         log.correct(1, 1, 10);
         same("removeRow()", log.removeRow(), 1);
@@ -226,7 +209,7 @@ public final class PromisesTest {
     // ---- promise 5
 
     private static void correct() {
-        DittoLog log = withRows("1,50,3,4", "',',','", "',',-,5", "2,',','");
+        DittoLog log = Logs.withRows("1,50,3,4", "',',','", "',',-,5", "2,',','");
         same("a number with two below", log.correct(0, 0, 3), 3);
         same("the same meaning by a ditto", log.correct(1, 0, 3), 0);
         same("the chain is cut", log.correct(0, 0, 4), 1);
@@ -252,10 +235,10 @@ public final class PromisesTest {
             same("column " + wrong, log.correct(0, wrong, 0), UNKNOWN);
             same("row goes ahead of the entry", log.correct(wrong, 0, 99), UNKNOWN);
         }
-        log = withRows("-,-,-,-", "',',','");
+        log = Logs.withRows("-,-,-,-", "',',','");
         same("nothing by a ditto in place of a blank", log.correct(0, 0, DITTO), 0);
         same("nothing by a blank in place of a ditto", log.correct(1, 1, NONE), 0);
-        log = withRows("1,1,1,1", "2,2,2,2", "',',','");
+        log = Logs.withRows("1,1,1,1", "2,2,2,2", "',',','");
         same("a ditto that leans on another number", log.correct(1, 0, DITTO), 2);
         same("the source is the row 0", log.cell(2, 0, 1), 0);
         same("the source alone does not count", log.correct(2, 0, 1), 0);
@@ -267,7 +250,7 @@ public final class PromisesTest {
     // ---- promise 6
 
     private static void takeBack() {
-        DittoLog log = withRows("1,50,3,4", "',',','");
+        DittoLog log = Logs.withRows("1,50,3,4", "',',','");
         same("one entry", log.takeBack(0, 0), NOT_POSSIBLE);
         log.correct(0, 0, 2);
         log.correct(0, 0, DITTO);
@@ -286,7 +269,7 @@ public final class PromisesTest {
         same("row 2", log.takeBack(2, 0), UNKNOWN);
         same("undo()", log.undo(), 3);
         same("the correction is back", log.entry(1, 0, 1), 1);
-        log = withRows("1,50,3,4", "7,',3,4");
+        log = Logs.withRows("1,50,3,4", "7,',3,4");
         log.correct(1, 0, 5);
         log.correct(1, 0, 7);
         log.correct(1, 0, 5);
@@ -370,7 +353,7 @@ public final class PromisesTest {
     private static void clearText() {
         DittoLog log = new DittoLog();
         same("empty", log.clearText(), 0);
-        typeText(log, "1,2,3,4");
+        Logs.typeText(log, "1,2,3,4");
         same("seven", log.clearText(), 7);
         same("empty again", log.clearText(), 0);
         same("no text is left", log.addRows(), -100);
@@ -396,7 +379,7 @@ public final class PromisesTest {
         log.set(1, 1);
         log.claim(4, 44);
         log.correct(1, 1, 77);
-        typeText(log, "12");
+        Logs.typeText(log, "12");
         log.keep();
         same("undo of correct", log.undo(), 3);
         same("one entry", log.cell(1, 1, 2), 1);
@@ -415,7 +398,7 @@ public final class PromisesTest {
     }
 
     private static void undoOfEntries() {
-        DittoLog log = withRows("0,0,0,0", "1,1,1,1", "2,2,2,2");
+        DittoLog log = Logs.withRows("0,0,0,0", "1,1,1,1", "2,2,2,2");
         log.correct(2, 2, 12);
         log.correct(2, 2, 11);
         same("undo()", log.undo(), 3);
@@ -464,7 +447,7 @@ public final class PromisesTest {
         log.set(1, 0);
         log.set(0, 5);
         log.set(2, 5);
-        typeText(log, "abc");
+        Logs.typeText(log, "abc");
         same("restore()", log.restore(), 2);
         same("states stay at four", log.count(10), 4);
         same("the text stays", log.count(11), 3);
@@ -488,7 +471,7 @@ public final class PromisesTest {
     // ---- promise 14
 
     private static void cell() {
-        DittoLog log = withRows("',10,-,0", "',',',9", "3,',',-", "',0,','", "',',5,4");
+        DittoLog log = Logs.withRows("',10,-,0", "',',',9", "3,',',-", "',0,','", "',',5,4");
         int[] courses = {NONE, NONE, 3, 3, 3};
         int[] courseSources = {NONE, NONE, 2, 2, 2};
         int[] courseChains = {1, 2, 1, 2, 3};
@@ -559,7 +542,7 @@ public final class PromisesTest {
     // ---- promise 15
 
     private static void entry() {
-        DittoLog log = withRows("1,199,-,'");
+        DittoLog log = Logs.withRows("1,199,-,'");
         log.correct(0, 1, NONE);
         log.correct(0, 1, DITTO);
         log.correct(0, 1, 3);
@@ -583,7 +566,7 @@ public final class PromisesTest {
     // ---- promise 16
 
     private static void isWritten() {
-        DittoLog log = withRows("0,0,0,0", "',0,0,0", "0,-,0,0", "0,0,',0", "0,0,0,-");
+        DittoLog log = Logs.withRows("0,0,0,0", "',0,0,0", "0,-,0,0", "0,0,',0", "0,0,0,-");
         int[] due = {1, 0, 0, 0, 0};
         for (int row = 0; row < 5; row++) {
             same("isWritten(" + row + ")", log.isWritten(row), due[row]);
@@ -600,8 +583,8 @@ public final class PromisesTest {
     // ---- promise 17
 
     private static void column() {
-        same("the longest of one row", withRows("',0,0,0").column(0, 4), 1);
-        DittoLog log = withRows("',199,1,-", "5,',1,-", "2,',0,-", "',-,0,-", "5,',','");
+        same("the longest of one row", Logs.withRows("',0,0,0").column(0, 4), 1);
+        DittoLog log = Logs.withRows("',199,1,-", "5,',1,-", "2,',0,-", "',-,0,-", "5,',','");
         int[][] due = {
             {2, 0, 0, 1, 2, 2, 0},
             {3, 1, 0, 2, 3, 199, 0},
@@ -623,7 +606,7 @@ public final class PromisesTest {
         same("the most", log.column(1, 5), 7);
         log.correct(2, 0, NONE);
         same("5 and nothing", log.column(0, 5), 5);
-        log = withRows("3,0,0,0", "4,0,0,0", "4,0,0,0", "3,0,0,0", "2,1,1,1", "1,1,1,1", "3,1,1,1", "4,1,1,1");
+        log = Logs.withRows("3,0,0,0", "4,0,0,0", "4,0,0,0", "3,0,0,0", "2,1,1,1", "1,1,1,1", "3,1,1,1", "4,1,1,1");
         same("of 3 and 4 the lesser", log.column(0, 5), 3);
         log.addRow(4, 1, 1, 1);
         same("the last row makes it 4", log.column(0, 5), 4);
@@ -643,7 +626,7 @@ public final class PromisesTest {
     // ---- promise 18
 
     private static void watch() {
-        DittoLog log = withRows("0,100,1,5", "',',',3", "-,-,',3", "',',',5", "',20,',-", "',',','");
+        DittoLog log = Logs.withRows("0,100,1,5", "',',',3", "-,-,',3", "',',',5", "',20,',-", "',',','");
         int[][] due = {{4, 200, 3, NONE, NONE, 2, 0}, {2, 40, NONE, NONE, NONE, 0, 0}};
         for (int watch = 0; watch < 2; watch++) {
             for (int what = 0; what < 7; what++) {
@@ -692,7 +675,7 @@ public final class PromisesTest {
     // ---- promise 19
 
     private static void run() {
-        DittoLog log = withRows("0,100,1,5", "',',',3", "-,-,',3", "',7,',5");
+        DittoLog log = Logs.withRows("0,100,1,5", "',',',3", "-,-,',3", "',7,',5");
         same("all", log.run(0, 3), 207);
         same("one", log.run(3, 3), 7);
         same("by ditto from above", log.run(1, 2), 100);
@@ -728,7 +711,7 @@ public final class PromisesTest {
             sameDouble("north up to " + course, log.north(0, course), northward);
             sameDouble("east up to " + course, log.east(0, course), eastward);
         }
-        log = withRows("0,100,1,5", "',',',3", "-,',',3", "4,-,',5", "2,0,',5", "3,30,',5");
+        log = Logs.withRows("0,100,1,5", "',',',3", "-,',',3", "4,-,',5", "2,0,',5", "3,30,',5");
         sameDouble("rows that count", log.north(0, 4), 20.0);
         sameDouble("a blank course", log.north(2, 2), 0.0);
         sameDouble("a blank speed", log.north(3, 3), 0.0);
@@ -767,8 +750,8 @@ public final class PromisesTest {
         same("what rounding leaves", log.squareBits(0, 2), Float.floatToIntBits(square));
         log.addRow(NONE, 4, 0, 0);
         same("nothing", log.squareBits(3, 3), 0);
-        same("one knot", withRows("6,10,0,0").squareBits(0, 0), 0x3f800000);
-        same("two knots", withRows("4,20,0,0").squareBits(0, 0), 0x40800000);
+        same("one knot", Logs.withRows("6,10,0,0").squareBits(0, 0), 0x3f800000);
+        same("two knots", Logs.withRows("4,20,0,0").squareBits(0, 0), 0x40800000);
         same("from behind", log.squareBits(1, 0), BAD);
         for (int wrong : new int[] {-1, 4, LEAST, MOST}) {
             same("from " + wrong, log.squareBits(wrong, 0), UNKNOWN);
@@ -801,14 +784,14 @@ public final class PromisesTest {
                 }
             }
         }
-        same("45.3 miles", withRows("0,199,0,0", "0,199,0,0", "0,55,0,0").squareBits(0, 2),
+        same("45.3 miles", Logs.withRows("0,199,0,0", "0,199,0,0", "0,55,0,0").squareBits(0, 2),
             Float.floatToIntBits((float) ((19.9 + 19.9 + 5.5) * (19.9 + 19.9 + 5.5))));
     }
 
     // ---- promise 23
 
     private static void wouldChange() {
-        DittoLog log = withRows("1,50,3,4", "',',','", "',',-,5", "2,',','");
+        DittoLog log = Logs.withRows("1,50,3,4", "',',','", "',',-,5", "2,',','");
         same("a number", log.wouldChange(0, 0, 3), 3);
         same("the same", log.wouldChange(0, 0, 1), 0);
         same("a blank", log.wouldChange(0, 1, NONE), 4);
@@ -838,7 +821,7 @@ public final class PromisesTest {
     // ---- promise 24
 
     private static void count() {
-        DittoLog log = withRows("0,100,1,5", "',',',3", "-,-,',3", "1,7,3,5", "',20,',-");
+        DittoLog log = Logs.withRows("0,100,1,5", "',',',3", "-,-,',3", "1,7,3,5", "',20,',-");
         log.correct(1, 1, 5);
         log.correct(1, 1, DITTO);
         log.correct(0, 2, 2);
@@ -850,7 +833,7 @@ public final class PromisesTest {
         log.claim(2, 20);
         log.claim(3, 20);
         log.undo();
-        typeText(log, "xyz");
+        Logs.typeText(log, "xyz");
         int[] due = {5, 6, 3, 4, 2, 3, 1, 7, 1, 2, 3, 3};
         for (int what = 0; what < due.length; what++) {
             same("count(" + what + ")", log.count(what), due[what]);
@@ -863,7 +846,7 @@ public final class PromisesTest {
         log.set(2, 6);
         same("sums of watches without rows are none", log.count(6), 1);
         same("one watch", log.count(5), 1);
-        log = withRows("',0,0,'", "1,',',1");
+        log = Logs.withRows("',0,0,'", "1,',',1");
         log.correct(0, 0, 1);
         log.correct(1, 3, 2);
         log.correct(1, 3, DITTO);
@@ -881,7 +864,7 @@ public final class PromisesTest {
     // ---- errors
 
     private static void errorsChangeNothing() {
-        DittoLog log = withRows("0,100,1,5", "',',',3");
+        DittoLog log = Logs.withRows("0,100,1,5", "',',',3");
         log.claim(0, 3);
         log.undo();
         int states = log.count(10);
