@@ -200,18 +200,18 @@ final class EdgesOfActs extends EdgeChecks {
         same("the first row is back", log.count(0), 1);
     }
 
-    /** Whatever was written in a row, nothing that is counted is another number after its removal. */
+    /** Whatever was written in a row, all that is counted is after its removal as without it. */
     private void traceOfRemovedRow() {
         for (int entry : new int[] {0, 7, NONE, DITTO}) {
             for (int rows : new int[] {0, 1, 12, 47}) {
                 DittoLog log = Logs.withDittos(rows, 1);
-                String before = counted(log);
                 log.addRow(entry, entry, entry, entry);
                 log.correct(rows, 0, 5);
                 log.correct(rows, 0, DITTO);
                 log.correct(rows, 3, 5);
                 log.removeRow();
-                isTrue("no trace of " + entry + " behind " + rows + " rows", counted(log).equals(before));
+                String due = counted(Logs.withDittos(rows, 1));
+                isTrue("no trace of " + entry + " behind " + rows + " rows", counted(log).equals(due));
             }
         }
     }
