@@ -58,7 +58,8 @@ public final class LanguageTest {
     /** Methods stay under sixty lines, and only constructors and constants make objects. */
     private static void lengthsAndRoom(Check check, String code) {
         String[] lines = code.split("\n", -1);
-        Pattern head = Pattern.compile("^( {4}| {8})(public |private )(static |final )*([\\w\\[\\]]+ )?(\\w+)\\(.*\\{$");
+        Pattern head = Pattern.compile(
+            "^( {4}| {8})(public |private )(static |final )*([\\w\\[\\]]+ )?(\\w+)\\(.*\\{$");
         for (int start = 0; start < lines.length; start++) {
             Matcher matcher = head.matcher(lines[start]);
             if (!matcher.find()) {
